@@ -147,7 +147,7 @@ public final class GaveTheDayBefore {
         if (refusal != FINE) {
             return refuse(refusal);
         }
-        think(0);
+        mind.become(now);
         for (int n = 0; n <= MOST_DAYS_IN_MIND; n++) {
             if (mind.has[person] >= much) {
                 return n;
@@ -171,7 +171,7 @@ public final class GaveTheDayBefore {
         if (refusal != FINE) {
             return refuse(refusal);
         }
-        think(0);
+        mind.become(now);
         int sum = 0;
         for (int i = 0; i < n; i++) {
             sum += mind.passDay();
@@ -190,7 +190,7 @@ public final class GaveTheDayBefore {
     }
 
     public int rest() {
-        think(0);
+        mind.become(now);
         int quiet = 0;
         for (int n = 1; n <= MOST_DAYS_IN_MIND; n++) {
             quiet = quietDayInMind() ? quiet + 1 : 0;
@@ -269,7 +269,7 @@ public final class GaveTheDayBefore {
         if (refusal != FINE) {
             return refuse(refusal);
         }
-        think(0);
+        mind.become(now);
         mind.changeSetting(Village.BACK, back);
         mind.passDays(n);
         return mind.has[person];
@@ -332,7 +332,7 @@ public final class GaveTheDayBefore {
         if (refusal != FINE) {
             return refuse(refusal);
         }
-        think(0);
+        mind.become(now);
         int seed = z;
         for (int i = 0; i < n; i++) {
             seed = nextSeed(seed);
@@ -431,7 +431,7 @@ public final class GaveTheDayBefore {
     }
 
     private int hasByLaw(int law, int person, int n) {
-        think(0);
+        mind.become(now);
         mind.changeSetting(Village.LAW, law);
         mind.passDays(n);
         return mind.has[person];
@@ -470,7 +470,7 @@ public final class GaveTheDayBefore {
     }
 
     private int lookAtBook(int person, boolean exactly) {
-        think(0);
+        mind.become(now);
         int place = NONE;
         for (int i = 0; i < numbersSize && place == NONE; i++) {
             mind.passDay();
@@ -637,7 +637,7 @@ public final class GaveTheDayBefore {
                 case DAYS: return bounded(gifts.countedTogether(setting[SPAN], person));
                 case BEST: return bounded(gifts.countedAtBest(setting[SPAN], person));
                 case DEAR: return bounded((counted + 1) / 2 + figure[person]);
-                default: return bounded(counted);
+                case ONCE: default: return bounded(counted);
             }
         }
 
@@ -652,7 +652,7 @@ public final class GaveTheDayBefore {
                 case GROW: return whatGrew(person);
                 case SAVE: return today < 10 * figure[person] ? whatGrew(person) : 0;
                 case THIEF: return divides(figure[person] + 1, today) ? has[person] / 2 : 0;
-                default: return 0;
+                case KEEPER: default: return 0;
             }
         }
 
@@ -776,6 +776,7 @@ public final class GaveTheDayBefore {
 
         private final int[] amount = new int[DAYS_KEPT * PLACES];
         private final int[] counted = new int[DAYS_KEPT * MOST_PEOPLE];
+        /** A bit for each who gave to whom on that day: 6 times who, and whom. */
         private final long[] pairs = new long[PAIRS_KEPT];
 
         private void become(Gifts other) {
@@ -784,15 +785,11 @@ public final class GaveTheDayBefore {
             System.arraycopy(other.pairs, 0, pairs, 0, pairs.length);
         }
 
-        private static long pairBit(int who, int whom) {
-            return 1L << (who * MOST_PEOPLE + whom);
-        }
-
         private void add(int who, int whom, int n) {
             int column = whom == TAKERS ? TAKERS_COLUMN : whom;
             amount[who * COLUMNS + column] += n;
             if (column != TAKERS_COLUMN) {
-                pairs[0] |= pairBit(who, whom);
+                pairs[0] |= 1L << who * MOST_PEOPLE + whom;
             }
         }
 
@@ -863,7 +860,7 @@ public final class GaveTheDayBefore {
             int first = ago * PLACES + who * COLUMNS;
             int sum = amount[first + TAKERS_COLUMN];
             for (int whom = 0; whom < MOST_PEOPLE; whom++) {
-                if ((gave & pairBit(whom, who)) == 0) {
+                if ((gave & 1L << whom * MOST_PEOPLE + who) == 0) {
                     sum += amount[first + whom];
                 }
             }
@@ -915,16 +912,16 @@ public final class GaveTheDayBefore {
             }
             Village morning = s.level[depth];
             int has = morning.has[s.one];
-            for (int choice = 0; choice <= 2; choice++) {
-                int n = has * choice / 2;
-                // A choice that gives nothing, too, can only repeat what the first choice led to.
-                if (choice > 0 && n == 0) {
+            for (int halves = 0; halves <= 2; halves++) {
+                int n = has * halves / 2;
+                // Another choice that gives nothing can only repeat what the first one led to.
+                if (halves > 0 && n == 0) {
                     continue;
                 }
-                s.chosen[depth] = choice;
-                Village evening = s.level[depth + 1];
-                evening.become(morning);
-                evening.passDayOfOne(s.one, n);
+                s.chosen[depth] = halves;
+                Village next = s.level[depth + 1];
+                next.become(morning);
+                next.passDayOfOne(s.one, n);
                 explore(s, depth + 1, given + n);
             }
         }
