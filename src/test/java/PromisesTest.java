@@ -189,6 +189,8 @@ public final class PromisesTest {
         due("person(0, 9)", x.person(0, 9), -2);
         due("person(0, -1)", x.person(0, -1), -2);
         due("person(2, 9)", x.person(2, 9), -1);
+        due("count(11)", x.count(11), 3);
+        due("count(12)", x.count(12), 2);
     }
 
     private static void leaveByLaws() {
@@ -235,7 +237,12 @@ public final class PromisesTest {
         due("given back 5 days behind", x.person(0, 8), 2);
         x.set(2, 4);
         due("BACK 4 does not look so far", x.person(0, 8), 9);
-        due("the first gift counts", x.byLaw(3, 1, 0), x.person(1, 3));
+        x.set(0, 3);
+        x.set(1, 5);
+        for (int i = 0; i < 4; i++) x.evening();
+        due("DAYS up to 5 days behind, BACK 4", x.person(0, 6), 9);
+        x.set(2, 5);
+        due("and BACK 5 from there, 10 days behind", x.person(0, 6), 2);
         GaveTheDayBefore y = of("p00990,0;p00990,0;");
         y.give(0, 1, 3);
         y.give(1, 0, 5);
@@ -514,6 +521,8 @@ public final class PromisesTest {
         x.set(0, 2);
         due("most(0, 2) by TWICE", x.most(0, 2), 21);
         due("most(0, 3) by TWICE", x.most(0, 3), 22);
+        // 5 of 10, 6 of 6, 10 of 10, 12 of 12, 10 of 20, 0 of 30: behind these it has 6, 10, 12, 20, 30, 50.
+        due("most(0, 6) by TWICE", x.most(0, 6), 50);
         due("most(2, 1)", x.most(2, 1), -1);
         due("most(0, 0)", x.most(0, 0), -4);
         due("most(0, 7)", x.most(0, 7), -6);
@@ -533,6 +542,8 @@ public final class PromisesTest {
         due("choice(0, 2, 1)", x.choice(0, 2, 1), 0);
         due("choice(0, 2, 2)", x.choice(0, 2, 2), -9);
         due("choice(0, 1, 0)", x.choice(0, 1, 0), 0);
+        int[] best = {1, 2, 2, 2, 1, 0};
+        for (int i = 0; i < 6; i++) due("choice(0, 6, " + i + ")", x.choice(0, 6, i), best[i]);
         due("the first best row", x.choice(1, 3, 2), 0);
         due("choice(0, 2, -1)", x.choice(0, 2, -1), -4);
         due("choice(0, 0, 0)", x.choice(0, 0, 0), -4);

@@ -2,7 +2,7 @@ import java.util.Random;
 
 /** Runs of calls by seeds, every answer held against PlainModel's; the state is looked at behind every call. */
 public final class RandomRunsTest {
-    private static final int RUNS = 500;
+    private static final int RUNS = 2000;
     private static final int[] SIGNS = {'p', 'l', ',', ';', '0', '1', '5', '9', 'x'};
 
     private GaveTheDayBefore real = new GaveTheDayBefore();
@@ -91,7 +91,7 @@ public final class RandomRunsTest {
     private String oneCall(int which, boolean wild) {
         int p = number(0, wild ? 5 : Math.max(0, model.count(0) - 1), wild);
         int n = number(0, below(4) == 0 ? 60 : 8, wild);
-        int few = number(1, below(5) == 0 ? 5 : 3, wild);
+        int few = number(1, below(5) == 0 ? 6 : 3, wild);
         int units = number(0, below(2) == 0 ? 9999 : 100, wild);
         switch (which) {
             case 0: case 1: case 2: return due("day()", real.day(), model.day());
