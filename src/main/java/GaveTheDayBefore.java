@@ -121,7 +121,7 @@ public final class GaveTheDayBefore {
     }
 
     public int gives(int person) {
-        return now.exists(person) ? now.amountByKind(person) : refuse(NOBODY);
+        return now.exists(person) ? now.giftByKind(person) : refuse(NOBODY);
     }
 
     public int after(int person, int n) {
@@ -405,9 +405,6 @@ public final class GaveTheDayBefore {
         if (what < 0 || what > 2) {
             return OTHER;
         }
-        if (v < 0) {
-            return BELOW;
-        }
         if (what == 2) {
             return v == TAKERS || now.exists(v) ? FINE : NOBODY;
         }
@@ -669,6 +666,11 @@ public final class GaveTheDayBefore {
                 return nextOne(person);
             }
             return kind[person] == SAINT && today % 2 == 1 ? TAKERS : to[person];
+        }
+
+        /** Nobody gives to itself, however much its kind would give. */
+        private int giftByKind(int person) {
+            return takerByKind(person) == person ? 0 : amountByKind(person);
         }
 
         private int nextOne(int person) {

@@ -226,8 +226,8 @@ final class PlainModel {
     int put(int p, int what, int v) {
         if (!w.is(p)) return no(-1);
         if (what < 0 || what > 2) return no(-2);
-        if (v < 0) return no(-4);
         if (what == 2 && v != 9 && !w.is(v)) return no(-1);
+        if (v < 0) return no(-4);
         if (what == 0 && v > 9999 || what == 1 && v > 99) return no(-6);
         One o = w.people.get(p);
         int was = what == 0 ? o.has : what == 1 ? o.finds : o.to;
@@ -268,7 +268,10 @@ final class PlainModel {
         return w.day;
     }
 
-    int gives(int p) { return w.is(p) ? w.amount(p) : no(-1); }
+    int gives(int p) {
+        if (!w.is(p)) return no(-1);
+        return w.taker(p) == p ? 0 : w.amount(p);
+    }
 
     int after(int p, int n) {
         if (!w.is(p)) return no(-1);

@@ -277,9 +277,14 @@ public final class PromisesTest {
         due("put(0, 1, 100)", x.put(0, 1, 100), -6);
         due("put(0, 2, 2)", x.put(0, 2, 2), -1);
         due("put(0, 2, 10)", x.put(0, 2, 10), -1);
-        due("put(0, 2, -1)", x.put(0, 2, -1), -4);
+        due("put(0, 2, -1)", x.put(0, 2, -1), -1);
+        due("put(0, 2, the least int)", x.put(0, 2, Integer.MIN_VALUE), -1);
+        due("put(0, 3, -1)", x.put(0, 3, -1), -2);
+        due("put(0, 1, -1)", x.put(0, 1, -1), -4);
         due("person(0, 2)", x.person(0, 2), 9);
-        due("count(11)", x.count(11), 3);
+        due("count(11)", x.count(11), 5);
+        due("count(12)", x.count(12), 2);
+        due("count(14)", x.count(14), 2);
     }
 
     private static void set() {
@@ -404,6 +409,43 @@ public final class PromisesTest {
             if (d == 2) y.put(2, 0, 10);
         }
         due("SAVE of 0", y.gives(3), 0);
+        givesToItself();
+    }
+
+    private static void givesToItself() {
+        promise = 10;
+        GaveTheDayBefore x = of("p1009,0;p2019,0;p3029,4;p4039,0;p5949,4;p6059,0;");
+        int[] even = {0, 0, 0, 9, 0, 0};
+        for (int p = 0; p < 6; p++) due("to itself, gives(" + p + ")", x.gives(p), even[p]);
+        x.evening();
+        due("a SAINT to itself, on an odd day to takers", x.gives(5), 9);
+        due("a GIVER to itself, on an odd day", x.gives(0), 0);
+        x.put(0, 2, 9);
+        due("to takers from then on", x.gives(0), 9);
+        x.put(0, 2, 0);
+        due("and to itself again", x.gives(0), 0);
+        due("a THIEF to itself", of("p7009,0;").gives(0), 0);
+        due("a ROUND alone", of("p4099,0;").gives(0), 0);
+        GaveTheDayBefore ring = of("p4009,0;p4015,0;");
+        due("a ROUND, TO does not matter", ring.gives(0), 9);
+        due("gone round", ring.gives(1), 5);
+        givesAsOnADay();
+    }
+
+    /** BACK is 0, so all that one gives on a day counts on the next. */
+    private static void givesAsOnADay() {
+        promise = 10;
+        for (int kind = 0; kind <= 7; kind++) {
+            for (int to : new int[] {0, 2, 9}) {
+                GaveTheDayBefore x = of("p00960,5;p10030,7;p" + kind + "1940,9;");
+                x.put(2, 2, to);
+                for (int d = 0; d < 12; d++) {
+                    int[] would = {x.gives(0), x.gives(1), x.gives(2)};
+                    x.day();
+                    for (int p = 0; p < 3; p++) due("KIND " + kind + " TO " + to + ", gives(" + p + ") on day " + d, would[p], x.person(p, 8));
+                }
+            }
+        }
     }
 
     /** 0 gives all to 1, who keeps; 0 finds 3: it has 1, then as much as it gave. */
