@@ -1,5 +1,5 @@
 /** Each of the promises 1 to 34, by answers worked out by hand from the document. */
-public final class PromisesTest {
+public final class PromisesTest extends Calls {
     private static int passed = 0;
     private static int failed = 0;
     private static int promise = 0;
@@ -11,28 +11,6 @@ public final class PromisesTest {
             failed++;
             System.out.println("promise " + promise + ": " + call + " answered " + got + ", due is " + want);
         }
-    }
-
-    private static int tell(GaveTheDayBefore x, String letters) {
-        for (char c : letters.toCharArray()) x.feed(c);
-        return x.land();
-    }
-
-    /** A new object with a land in it. */
-    private static GaveTheDayBefore of(String letters) {
-        GaveTheDayBefore x = new GaveTheDayBefore();
-        int answer = tell(x, letters);
-        if (answer < 0) due("land() of " + letters, answer, 1);
-        return x;
-    }
-
-    private static GaveTheDayBefore days(GaveTheDayBefore x, int n) {
-        for (int i = 0; i < n; i++) x.day();
-        return x;
-    }
-
-    private static void row(GaveTheDayBefore x, int... numbers) {
-        for (int v : numbers) x.row(v);
     }
 
     public static void main(String[] args) {
@@ -448,11 +426,6 @@ public final class PromisesTest {
         }
     }
 
-    /** 0 gives all to 1, who keeps; 0 finds 3: it has 1, then as much as it gave. */
-    private static GaveTheDayBefore pair() {
-        return of("p0094,0;p10010,3;");
-    }
-
     private static void after() {
         promise = 11;
         GaveTheDayBefore x = pair();
@@ -550,14 +523,10 @@ public final class PromisesTest {
         due("given by hand stays given", x.rest(), 0);
     }
 
-    /** One who has 10, finds 20: a day's gift comes back on the evening of the next. */
-    private static GaveTheDayBefore finder() {
-        return of("p00910,20;p00150,0;");
-    }
-
     private static void most() {
         promise = 18;
         GaveTheDayBefore x = finder();
+        x.set(0, 0);
         due("most(0, 1)", x.most(0, 1), 11);
         due("most(0, 2)", x.most(0, 2), 12);
         x.set(0, 2);
