@@ -210,6 +210,16 @@ public final class BoundariesTest extends Sentences {
                 due("as it is", x.set(what, most[what]), most[what]);
             }
             due("LEAVE by DEAR and FREE 99", x.person(0, 6), 99);
+            GaveTheDayBefore y = of("p00999,0;p00999,0;");
+            y.give(0, 1, 7);
+            y.give(1, 0, 5);
+            y.evening();
+            for (int what : new int[] {0, 1, 3}) {
+                y.set(what, 5);
+                due("what COUNTED stays behind set(" + what + ", 5)", y.person(0, 8), 7);
+            }
+            y.set(2, 5);
+            due("but by another BACK", y.person(0, 8), 0);
         });
         promise(6, "-2;", () -> {
             refusedFor("set(.., 0)", new int[] {-1, 4, LEAST, GREATEST}, -2, (x, v) -> x.set(v, 0));
@@ -727,7 +737,13 @@ public final class BoundariesTest extends Sentences {
             due("of 8, 0 and 13", x.count(2), 8 + 0 + 13);
         });
         promise(34, "3 what is LYING for all,", () -> due("without FINDS, without what takers got", x.count(3), 1 + 5));
-        promise(34, "4 all GIVEN today,", () -> due("and what takers got", x.count(4), 1 + 5 + 2));
+        promise(34, "4 all GIVEN today,", () -> {
+            due("and what takers got", x.count(4), 1 + 5 + 2);
+            GaveTheDayBefore six = of("p0091,0;p0091,0;p0091,0;p0091,0;p0091,0;p0091,0;");
+            for (int p = 0; p <= 5; p++) six.give(p, (p + 1) % 6, 1);
+            due("of six", six.count(4), 6);
+            due("LYING for six", six.count(3), 6);
+        });
         promise(34, "5 letters,", () -> due("count(5)", x.count(5), 1));
         promise(34, "6 in the ROW,", () -> due("count(6)", x.count(6), 2));
         promise(34, "11 .. 16 REFUSALS -1 .. -6.", () -> {

@@ -1,4 +1,7 @@
 import java.math.BigInteger;
+import java.util.LinkedHashMap;
+import java.util.Map;
+import java.util.function.ToIntFunction;
 
 /** Each sentence of part II of the document's terms, of THE IMAGE and of REFUSALS, at its boundaries. */
 public final class MindTest extends Sentences {
@@ -26,28 +29,54 @@ public final class MindTest extends Sentences {
         finish();
     }
 
+    private static Map<String, ToIntFunction<GaveTheDayBefore>> callsInMind() {
+        Map<String, ToIntFunction<GaveTheDayBefore>> calls = new LinkedHashMap<>();
+        calls.put("after(0, 60)", x -> x.after(0, 60));
+        calls.put("all(60)", x -> x.all(60));
+        calls.put("enough(0, 9999)", x -> x.enough(0, 9999));
+        calls.put("richest(60)", x -> x.richest(60));
+        calls.put("lost(60)", x -> x.lost(60));
+        calls.put("grows(60)", x -> x.grows(60));
+        calls.put("rest()", x -> x.rest());
+        calls.put("most(0, 6)", x -> x.most(0, 6));
+        calls.put("choice(0, 6, 0)", x -> x.choice(0, 6, 0));
+        calls.put("gap(0, 6)", x -> x.gap(0, 6));
+        calls.put("feast(0, 6, 9)", x -> x.feast(0, 6, 9));
+        calls.put("begins()", x -> x.begins());
+        calls.put("helps()", x -> x.helps());
+        calls.put("byLaw(5, 0, 60)", x -> x.byLaw(5, 0, 60));
+        calls.put("byBack(5, 0, 60)", x -> x.byBack(5, 0, 60));
+        calls.put("leastLaw(0, 60)", x -> x.leastLaw(0, 60));
+        calls.put("found(0)", x -> x.row(0) + x.row(9999) + x.found(0));
+        calls.put("judge(0)", x -> x.row(x.after(0, 1)) + x.row(9999) + x.judge(0));
+        calls.put("told()", x -> x.row(0) + x.row(1) + x.row(1) + x.row(0) + x.row(1) + x.row(9999) + x.told());
+        calls.put("seeds(20, 7)", x -> x.seeds(20, 7));
+        return calls;
+    }
+
+    /** Whatever was in mind before, a call is answered as in an object in which nothing was. */
+    private static void fromNow(Map<String, ToIntFunction<GaveTheDayBefore>> calls) {
+        for (String first : calls.keySet()) {
+            for (String second : calls.keySet()) {
+                GaveTheDayBefore x = lively();
+                calls.get(first).applyAsInt(x);
+                due(second + " behind " + first, calls.get(second).applyAsInt(changed(x)), calls.get(second).applyAsInt(changed(lively())));
+            }
+        }
+    }
+
+    private static GaveTheDayBefore changed(GaveTheDayBefore x) {
+        x.day();
+        x.put(0, 0, 40);
+        x.put(1, 1, 20);
+        return x;
+    }
+
     private static void nothingChanges() {
         terms(11, "==== II. All that follows is in mind, from now", () -> {
-            inMind("after(0, 60)", x -> x.after(0, 60));
-            inMind("all(60)", x -> x.all(60));
-            inMind("enough(0, 9999)", x -> x.enough(0, 9999));
-            inMind("richest(60)", x -> x.richest(60));
-            inMind("lost(60)", x -> x.lost(60));
-            inMind("grows(60)", x -> x.grows(60));
-            inMind("rest()", x -> x.rest());
-            inMind("most(0, 6)", x -> x.most(0, 6));
-            inMind("choice(0, 6, 5)", x -> x.choice(0, 6, 5));
-            inMind("gap(0, 6)", x -> x.gap(0, 6));
-            inMind("feast(0, 6, 9)", x -> x.feast(0, 6, 9));
-            inMind("begins()", x -> x.begins());
-            inMind("helps()", x -> x.helps());
-            inMind("byLaw(5, 0, 60)", x -> x.byLaw(5, 0, 60));
-            inMind("byBack(5, 0, 60)", x -> x.byBack(5, 0, 60));
-            inMind("leastLaw(0, 60)", x -> x.leastLaw(0, 60));
-            inMind("seeds(20, 7)", x -> x.seeds(20, 7));
-            inMind("found(0)", x -> x.row(9999) + x.found(0));
-            inMind("judge(0)", x -> x.row(9999) + x.judge(0));
-            inMind("told()", x -> x.row(0) + x.row(1) + x.row(1) + x.told());
+            Map<String, ToIntFunction<GaveTheDayBefore>> calls = callsInMind();
+            for (String call : calls.keySet()) inMind(call, calls.get(call));
+            fromNow(calls);
         });
         terms(11, "(what was given by hand this morning stays given).", () -> {
             GaveTheDayBefore x = of("p1098,0;p7090,0;");
@@ -145,6 +174,10 @@ public final class MindTest extends Sentences {
             due("three are", of("p72964,0;").rest(), 1);
             due("each, not the first alone", of("p00999,0;p0099990,1;").rest(), 9);
             due("each, not ALL together", of("p4095,0;p4093,0;").rest() == 0 ? 0 : 1, 1);
+            due("six", of("p0090,0;p0090,0;p0090,0;p0090,0;p0090,0;p1095,0;").rest(), 1);
+            GaveTheDayBefore x = of("p1095,0;");
+            x.put(0, 0, 0);
+            due("from now", x.rest(), 0);
             due("never", pair().rest(), -9);
         });
     }
@@ -166,6 +199,10 @@ public final class MindTest extends Sentences {
             due("most(0, 0)", x.most(0, 0), -4);
             due("most(0, 7)", x.most(0, 7), -6);
             due("of one who finds, 6 DAYS by TWICE", finder().most(0, 6), 50);
+            GaveTheDayBefore six = of("p0090,0;p1001,0;p1001,0;p1001,0;p1001,0;p1001,0;");
+            six.set(3, 99);
+            due("of the first of six", six.most(0, 1), 5);
+            due("of the last of six", six.most(5, 1), 1);
         });
         terms(18, "it gives in each of them nothing, half (cut), or all of what it HAS", () -> {
             GaveTheDayBefore x = of("p0095,99;l230;");
@@ -502,6 +539,9 @@ public final class MindTest extends Sentences {
             due("of 9999", of("p0099999,0;").seeds(20, 1), 9999);
             due("ALL", of("p0099999,0;p0099999,0;").seeds(20, 1), 2 * 9999);
             due("it is given in the same morning", of("p1090,0;").seeds(1, 1), 0);
+            GaveTheDayBefore x = of("p00950,0;");
+            x.put(0, 0, 20);
+            due("from now", x.seeds(1, 1), 28);
         });
         terms(31, "DRAWS: z becomes z times 1103515245 and 12345 (an int);", () -> {
             for (int seed : someSeeds) due("seed " + seed, of("p0090,0;").seeds(20, seed), drawn(20, seed, 1)[0]);

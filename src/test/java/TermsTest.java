@@ -166,6 +166,15 @@ public final class TermsTest extends Sentences {
                 due("given " + back + " days before, BACK " + back, countedBehind(back, back), 2);
                 due("given " + (back + 1) + " days before, BACK " + back, countedBehind(back, back + 1), 9);
             }
+            GaveTheDayBefore far = of("p00999,0;p00999,0;l355;");
+            far.give(1, 0, 4);
+            evenings(far, 5);
+            far.give(0, 1, 7);
+            far.give(0, 9, 2);
+            evenings(far, 5);
+            due("BACK 5 from the first of SPAN 5, 10 days before today", far.person(0, 6), 2);
+            far.set(2, 4);
+            due("BACK 4 from there", far.person(0, 6), 9);
             GaveTheDayBefore x = of("p00999,0;p00999,0;l355;");
             x.give(0, 1, 7);
             x.evening();
@@ -216,6 +225,19 @@ public final class TermsTest extends Sentences {
         return x.person(0, 6);
     }
 
+    /** LEAVE of the second of two who gave 50 and 5, 40 and 7. */
+    private static int secondsLeave(int law) {
+        GaveTheDayBefore x = of("p00999,0;p00999,0;l030;");
+        x.set(0, law);
+        x.give(0, 9, 50);
+        x.give(1, 9, 5);
+        x.evening();
+        x.give(0, 9, 40);
+        x.give(1, 9, 7);
+        x.evening();
+        return x.person(1, 6);
+    }
+
     private static void leave() {
         terms(4, "LEAVE of one: what it may carry home today:", () -> {
             GaveTheDayBefore x = of("p00999,50;");
@@ -256,6 +278,7 @@ public final class TermsTest extends Sentences {
             int[] sums = {32, 48, 56, 60, 62};
             for (int span = 1; span <= 5; span++) due("SPAN " + span, leaveOf(3, span, 1, 2, 4, 8, 16, 32), sums[span - 1]);
             due("less days than SPAN", leaveOf(3, 5, 3, 4), 7);
+            due("of the second of two", secondsLeave(3), 12);
             due("days without gifts", leaveOf(3, 3, 9, 5, 0, 0), 5);
         });
         terms(4, "BEST the most that COUNTED in one of these;", () -> {
@@ -263,6 +286,7 @@ public final class TermsTest extends Sentences {
             for (int span = 1; span <= 5; span++) due("SPAN " + span, leaveOf(4, span, 32, 16, 8, 4, 2, 1), best[span - 1]);
             due("the last of them", leaveOf(4, 5, 1, 2, 3), 3);
             due("less days than SPAN", leaveOf(4, 5, 3), 3);
+            due("of the second of two", secondsLeave(4), 7);
         });
         terms(4, "DEAR a HALVED's and the FIGURE of it.", () -> {
             for (int figure = 0; figure <= 9; figure += 9) {
@@ -548,6 +572,9 @@ public final class TermsTest extends Sentences {
             x.put(1, 0, 30);
             x.day();
             due("DAY 2, to its TO", x.person(0, 3), 90);
+            x.put(1, 0, 40);
+            x.day();
+            due("DAY 3, to takers", x.person(0, 3), 90);
             GaveTheDayBefore self = of("p6009,0;");
             due("to itself on DAY 0", self.gives(0), 0);
             self.evening();
