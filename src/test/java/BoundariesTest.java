@@ -739,10 +739,15 @@ public final class BoundariesTest extends Sentences {
         promise(34, "3 what is LYING for all,", () -> due("without FINDS, without what takers got", x.count(3), 1 + 5));
         promise(34, "4 all GIVEN today,", () -> {
             due("and what takers got", x.count(4), 1 + 5 + 2);
-            GaveTheDayBefore six = of("p0091,0;p0091,0;p0091,0;p0091,0;p0091,0;p0091,0;");
+            GaveTheDayBefore six = of("p0099,0;p0099,0;p0099,0;p0099,0;p0099,0;p0099,0;");
+            for (int p = 0; p <= 5; p++) six.give(p, (p + 1) % 6, 3);
+            six.give(0, 9, 1);
+            six.evening();
+            due("yesterday's are not among them", six.count(4), 0);
             for (int p = 0; p <= 5; p++) six.give(p, (p + 1) % 6, 1);
-            due("of six", six.count(4), 6);
-            due("LYING for six", six.count(3), 6);
+            for (int p = 0; p <= 5; p++) six.give(p, 9, 2);
+            due("of six, and to takers", six.count(4), 18);
+            due("LYING for six, without takers", six.count(3), 6);
         });
         promise(34, "5 letters,", () -> due("count(5)", x.count(5), 1));
         promise(34, "6 in the ROW,", () -> due("count(6)", x.count(6), 2));

@@ -175,6 +175,8 @@ public final class TermsTest extends Sentences {
             due("BACK 5 from the first of SPAN 5, 10 days before today", far.person(0, 6), 2);
             far.set(2, 4);
             due("BACK 4 from there", far.person(0, 6), 9);
+            far.set(2, 5);
+            due("BACK 5 again", far.person(0, 6), 2);
             GaveTheDayBefore x = of("p00999,0;p00999,0;l355;");
             x.give(0, 1, 7);
             x.evening();
