@@ -40,6 +40,7 @@ public final class LanguageTest {
         for (String refused : REFUSED) rule(!Pattern.compile(refused).matcher(code).find(), "no " + refused);
         rule(text.chars().allMatch(c -> c < 128), "signs below 128");
         face();
+        faceOfTheDocument();
         nested();
         methodsAreShort(code);
         rowsAreMadeInConstructors(code);
@@ -61,6 +62,20 @@ public final class LanguageTest {
         for (Field f : c.getDeclaredFields()) rule(Modifier.isPrivate(f.getModifiers()), "the field " + f.getName() + " is private");
         Constructor<?>[] makers = c.getDeclaredConstructors();
         rule(makers.length == 1 && Modifier.isPublic(makers[0].getModifiers()) && makers[0].getParameterCount() == 0, "one public constructor");
+    }
+
+    /** The face as ../shared/DOC.md tells it, so that FACE above can't drift away from it. */
+    private static void faceOfTheDocument() throws Exception {
+        Path path = Path.of("../shared/DOC.md");
+        if (!Files.exists(path)) {
+            System.out.println("no " + path + ": the face is not looked up");
+            return;
+        }
+        Set<String> told = new TreeSet<>();
+        for (Matcher m = Pattern.compile("(?m)^ +public int (\\w+)\\(([^)]*)\\);$").matcher(Files.readString(path)); m.find();) {
+            told.add(m.group(1) + "/" + (m.group(2).isEmpty() ? 0 : m.group(2).split(",").length));
+        }
+        rule(told.equals(new TreeSet<>(Arrays.asList(FACE.split(" ")))), "the document's face: " + told);
     }
 
     private static void nested() {
